@@ -29,8 +29,8 @@ public final class ClassInference {
     /** Above any index that can be asked for, so that a size cut off here is never mistaken. */
     private static final long HUGE_SIZE = 1L << 40;
 
-    // 24 nodes of an expression make 3252 nodes of types at most: a METHOD or CONSTANT makes 16,
-    // an APPLY or LAMBDA 2, and a NAME of a LET those that its e's type holds.
+    // 24 nodes of an expression make 3252 nodes of types at most, however they are nested: a METHOD
+    // or CONSTANT makes 16, an APPLY or LAMBDA 2, and a NAME of a LET those that its e's type holds.
     private static final int MOST_GRAPH_NODES = 4096;
     private static final int FIRST_GRAPH_NODES = 64;
     private static final int MOST_STEPS = 1000000;
@@ -393,22 +393,12 @@ public final class ClassInference {
             return true;
         }
 
-        /** What the instances that there are of some classes want of a constructor's first part. */
-        int ofFirst(int bits, int constructor) {
+        /** What the instances that there are of some classes want of a constructor's part, by its row. */
+        int joined(int[] wantedOfPart, int bits, int constructor) {
             int all = 0;
             for (int c = 0; c < count; c++) {
                 if ((bits & 1 << c) != 0) {
-                    all |= wantedOfFirst[slot(c, constructor)];
-                }
-            }
-            return all;
-        }
-
-        int ofSecond(int bits, int constructor) {
-            int all = 0;
-            for (int c = 0; c < count; c++) {
-                if ((bits & 1 << c) != 0) {
-                    all |= wantedOfSecond[slot(c, constructor)];
+                    all |= wantedOfPart[slot(c, constructor)];
                 }
             }
             return all;
@@ -425,16 +415,16 @@ public final class ClassInference {
             if (depth > MOST_TYPE_NODES || constructor < 0 || !haveInstances(bits, constructor)) {
                 return false;
             }
+            int ofFirst = joined(wantedOfFirst, bits, constructor);
+            int ofSecond = joined(wantedOfSecond, bits, constructor);
             int first = table.first[type];
             int second = table.second[type];
-            if (first != NONE && !holdsAllDown(ofFirst(bits, constructor), first, table, depth + 1)) {
-                return false;
-            }
-            return second == NONE
-                || holdsAllDown(ofSecond(bits, constructor), second, table, depth + 1);
+            return (first == NONE || holdsAllDown(ofFirst, first, table, depth + 1))
+                && (second == NONE || holdsAllDown(ofSecond, second, table, depth + 1));
         }
     }
 
+    /** The expressions, each with its kind and what that has. */
     private static final class ExpressionTable {
         private final int[] kind = new int[MOST_EXPRESSIONS];
         private final int[] a = new int[MOST_EXPRESSIONS];
@@ -670,7 +660,7 @@ public final class ClassInference {
             return valueOf(node);
         }
 
-        private int valueOf(int node) {
+        int valueOf(int node) {
             return node == NONE ? NONE : value[settled(node)];
         }
 
@@ -696,7 +686,7 @@ public final class ClassInference {
         }
     }
 
-    /** Types one expression: first all of its nodes, then what is wanted, LET by LET. */
+    /** Types one expression from its parts up, and settles what is wanted LET by LET. */
     private static final class Typer {
         private static final int OF_LAMBDA = -1;
 
@@ -921,7 +911,8 @@ public final class ClassInference {
                 return Integer.bitCount(graph.kept[node]);
             }
             if (graph.bound[node] == settling) {
-                // What is bound by a LAMBDA around is wanted outside: the LETs around will see it.
+                // Wanted outside. If the node is older than the e of a LET around, that LET does not
+                // see it; nor need it, for the variable is then bound around that LET too.
                 graph.asked[node] |= bits;
             } else {
                 ambiguous = true;
@@ -937,10 +928,10 @@ public final class ClassInference {
             int first = graph.firstOf(node);
             int second = graph.secondOf(node);
             if (first != NONE) {
-                graph.value[first] |= classTable.ofFirst(bits, constructor);
+                graph.value[first] |= classTable.joined(classTable.wantedOfFirst, bits, constructor);
             }
             if (second != NONE) {
-                graph.value[second] |= classTable.ofSecond(bits, constructor);
+                graph.value[second] |= classTable.joined(classTable.wantedOfSecond, bits, constructor);
             }
         }
 
@@ -950,13 +941,12 @@ public final class ClassInference {
             told.restart(graph.ordered, handed);
             for (int i = 0; i < graph.ordered; i++) {
                 int node = graph.order[i];
-                int first = graph.firstOf(node);
-                int second = graph.secondOf(node);
                 if (graph.isVariable(node)) {
                     told.addVariable(graph.kept[node]);
                 } else {
-                    told.addBuilt(graph.head[node], first == NONE ? NONE : graph.value[first],
-                        second == NONE ? NONE : graph.value[second]);
+                    int first = graph.valueOf(graph.first[node]);
+                    int second = graph.valueOf(graph.second[node]);
+                    told.addBuilt(graph.head[node], first, second);
                 }
                 graph.value[node] = i;
             }
