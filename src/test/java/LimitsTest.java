@@ -47,8 +47,8 @@ public final class LimitsTest {
         for (int place : places) {
             due("huge shape(" + place + ")", x.shape(place), inTree(place - 2L, 32));
         }
-        for (int i = 1; i < 3000; i++) {
-            int place = i * 715827;
+        for (int i = 1; i < 400; i++) {
+            int place = i * 5382163;
             due("huge shape(" + place + ")", x.shape(place), inTree(place - 2L, 32));
         }
         due("huge wants", x.wants(), 0);

@@ -12,10 +12,13 @@ import java.util.TreeSet;
  * what is known of variables is a map, and wants are lists of a class and a type.
  */
 public final class ModelTest {
-    private static final int RUNS = 6000;
+    private static final int RUNS = 12000;
+    /** "An object is used for at most 512 calls": the last three ask how many of each there are. */
+    private static final int MOST_CALLS = 512 - 3;
     private static final int TOO_BIG_FOR_MODEL = 20000;
 
     private static int wrong = 0;
+    private static int calls = 0;
     private static final Map<String, Integer> seen = new LinkedHashMap<>();
 
     /** A variable (constructor -1, with a number), or a constructor with parts. */
@@ -539,7 +542,12 @@ public final class ModelTest {
         return roll(30) == 0 ? roll(3) == 0 ? -1 - roll(2) : bound + roll(2) : roll(Math.max(bound, 1));
     }
 
+    private static boolean roomFor(int more) {
+        return calls + more <= MOST_CALLS;
+    }
+
     private static void due(int run, String call, int got, int want) {
+        calls++;
         if (got != want) {
             wrong++;
             if (wrong < 50) {
@@ -565,9 +573,9 @@ public final class ModelTest {
     private static void randomRun(int run) {
         ClassInference x = new ClassInference();
         Model m = new Model();
+        calls = 0;
         makeWorld(run, x, m);
-        int calls = 60 + roll(300);
-        for (int i = 0; i < calls; i++) {
+        while (roomFor(2)) {
             step(run, x, m);
         }
         due(run, "types()", x.types(), m.types.size());
@@ -694,18 +702,20 @@ public final class ModelTest {
         }
         due(run, "infer(" + e + ")", x.infer(e), want);
         seen.merge(want > 0 ? "typed" : String.valueOf(want), 1, Integer::sum);
-        for (int i = -1; i <= m.shape.size(); i++) {
+        boolean all = want > 0 && roll(3) > 0;
+        for (int i = all ? -1 : m.shape.size() - 1; i <= m.shape.size() && roomFor(1); i++) {
             int due = i >= 0 && i < m.shape.size() ? m.shape.get(i) : -100;
             due(run, "after infer(" + e + "): shape(" + i + ")", x.shape(i), due);
         }
-        due(run, "after infer(" + e + "): wants()", x.wants(), m.wants.size());
-        for (int i = -1; i <= m.wants.size(); i++) {
-            for (int k = -1; k <= 2; k++) {
-                boolean there = i >= 0 && i < m.wants.size() && (k == 0 || k == 1);
-                due(run, "after infer(" + e + "): want(" + i + ", " + k + ")", x.want(i, k), there ? m.wants.get(i)[k] : -1);
-            }
+        if (roomFor(2)) {
+            due(run, "after infer(" + e + "): wants()", x.wants(), m.wants.size());
+            due(run, "after infer(" + e + "): passes()", x.passes(), m.passes);
         }
-        due(run, "after infer(" + e + "): passes()", x.passes(), m.passes);
+        for (int i = all ? -1 : m.wants.size() - 1; i <= m.wants.size() && roomFor(2); i++) {
+            boolean there = i >= 0 && i < m.wants.size();
+            due(run, "after infer(" + e + "): want(" + i + ", 0)", x.want(i, 0), there ? m.wants.get(i)[0] : -1);
+            due(run, "after infer(" + e + "): want(" + i + ", 1)", x.want(i, 1), there ? m.wants.get(i)[1] : -1);
+        }
         if (want > 0 && !m.wants.isEmpty()) {
             seen.merge("with wants", 1, Integer::sum);
         }
