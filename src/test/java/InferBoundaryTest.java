@@ -1,3 +1,5 @@
+import java.util.List;
+
 /**
  * Boundary cases of promises 9 to 13, and of the Terms that they use: each has a method of its own, named after
  * the promise (or the Terms) and the case, with the words that name the case.
@@ -339,6 +341,59 @@ public final class InferBoundaryTest extends Cases {
         r.typed(r.constant(OF_INT), new int[] {INT}, NONE, 0);
         r.typed(10, new int[] {ARROW, -1, ARROW, -2, INT}, new int[] {EQ, 0, SHOW, 1}, 2);
         r.typed(r.methodOf(ORD), IDENTITY, new int[] {ORD, 0}, 1);
+    }
+
+    /** "An expression is typed": as it is when it is the first one, whatever was typed, or refused, before it. */
+    static void promise09_latest_nothingIsLeftOfTheOneBefore() {
+        Run r = world();
+        r.instance(EQ, LIST, 1 << EQ, 0);
+        r.instance(SHOW, PAIR, 1 << EQ, 1 << SHOW);
+        int most = expressionsOfManyKinds(r);
+        for (int e = 0; e < most; e++) {
+            List<Integer> alone = r.toldAfter(-1, e);
+            for (int before = 0; before < most; before++) {
+                if (!r.toldAfter(before, e).equals(alone)) {
+                    fault("after infer(" + before + "), infer(" + e + ") and what is told of it are not as alone");
+                }
+            }
+        }
+    }
+
+    private static int expressionsOfManyKinds(Run r) {
+        int y = r.name(0);
+        int z = r.name(1);
+        int pairing = pairing(r);
+        int eq = r.methodOf(EQ);
+        int show = r.methodOf(SHOW);
+        int ord = r.methodOf(ORD);
+        int list = r.constant(LIST_V0);
+        int any = r.constant(V0);
+        int identity = r.lambda(0, y);
+        int copied = r.let(1, identity, r.apply(z, z));
+        int lost = r.apply(eq, any);
+        int lists = r.apply(show, r.apply(r.apply(pairing, list), list));
+        int bound = r.lambda(0, r.let(1, r.apply(eq, y), pairOf(r, pairing, y, z)));
+        int wide = r.let(1, ord, pairOf(r, pairing, z, pairOf(r, pairing, z, copied)));
+        int deep = r.lambda(0, r.lambda(1, r.apply(ord, pairOf(r, pairing, y, z))));
+        r.lambda(0, lost);
+        r.lambda(0, r.lambda(1, lost));
+        r.let(0, lost, wide);
+        r.lambda(0, r.apply(eq, r.apply(y, any)));
+        r.let(0, r.lambda(1, r.apply(eq, r.apply(pairing, z))), bound);
+        r.lambda(0, r.apply(y, y));
+        r.apply(r.constant(OF_INT), deep);
+        r.apply(eq, list);
+        r.apply(show, pairOf(r, pairing, list, any));
+        r.lambda(0, r.apply(show, pairOf(r, pairing, y, y)));
+        r.let(0, lists, bound);
+        r.let(1, identity, lost);
+        r.lambda(0, pairOf(r, pairing, y, lost));
+        pairOf(r, pairing, identity, lost);
+        pairOf(r, pairing, lost, pairOf(r, pairing, any, identity));
+        r.apply(r.lambda(1, identity), lost);
+        r.lambda(0, r.lambda(1, pairOf(r, pairing, r.apply(eq, r.apply(y, z)), z)));
+        pairOf(r, pairing, lost, lost);
+        return r.call(Run.Op.EXPRESSIONS);
     }
 
     /** "NO (none), else LACKS (anywhere), else AMBIGUOUS (anywhere)": each with each, either one first. */

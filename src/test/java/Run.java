@@ -52,6 +52,7 @@ final class Run {
         }
     }
 
+    private static final List<Call> QUESTIONS = questions();
     private static final List<Call> PROBES = probes();
 
     private final ClassInference x = new ClassInference();
@@ -130,9 +131,27 @@ final class Run {
         return answers;
     }
 
+    /** What is told of an expression on this run made anew, when another one is typed before it (-1: none). */
+    List<Integer> toldAfter(int before, int expression) {
+        ClassInference again = new ClassInference();
+        for (Call call : kept) {
+            call.on(again);
+        }
+        if (before >= 0) {
+            again.infer(before);
+        }
+        List<Integer> answers = new ArrayList<>();
+        answers.add(again.infer(expression));
+        for (Call question : QUESTIONS) {
+            if (answers.get(0) > 0) {
+                answers.add(question.on(again));
+            }
+        }
+        return answers;
+    }
+
     private static List<Call> probes() {
-        List<Call> all = new ArrayList<>();
-        addQuestions(all);
+        List<Call> all = new ArrayList<>(QUESTIONS);
         for (int class0 = 0; class0 < 8; class0++) {
             for (int type = 0; type < 60; type++) {
                 all.add(new Call(Op.IS, class0, type));
@@ -142,14 +161,15 @@ final class Run {
         for (int e = 0; e < 120; e++) {
             all.add(new Call(Op.INFER, e));
         }
-        addQuestions(all);
+        all.addAll(QUESTIONS);
         for (int i = 0; i < 120; i++) {
             all.add(new Call(Op.EXPRESSION, 0, 0, 0, 0));
         }
         return all;
     }
 
-    private static void addQuestions(List<Call> all) {
+    private static List<Call> questions() {
+        List<Call> all = new ArrayList<>();
         all.add(new Call(Op.TYPES));
         all.add(new Call(Op.CLASSES));
         all.add(new Call(Op.EXPRESSIONS));
@@ -165,6 +185,7 @@ final class Run {
         for (int c = 0; c < 64; c++) {
             all.add(new Call(Op.UNDER, c / 8, c % 8));
         }
+        return all;
     }
 
     /** What is made next shows how many there were, and which parts, methods and instances they had. */

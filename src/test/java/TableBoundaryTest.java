@@ -1051,6 +1051,19 @@ public final class TableBoundaryTest extends Cases {
         r.changesNothing(0, Run.Op.IS, SHOW, listSecond);
     }
 
+    /** The arrow is a constructor as the others are, the first one: it is in a class by an instance. */
+    static void promise14_arrow_byAnInstance() {
+        Run r = world();
+        int arrow = r.type(ARROW, OF_INT, OF_INT);
+        int arrows = r.type(ARROW, arrow, OF_INT);
+        r.changesNothing(0, Run.Op.IS, EQ, arrow);
+        r.instance(EQ, ARROW, 1 << EQ, 0);
+        r.changesNothing(0, Run.Op.IS, EQ, arrow);
+        r.instance(EQ, INT, 0, 0);
+        r.changesNothing(1, Run.Op.IS, EQ, arrow);
+        r.changesNothing(1, Run.Op.IS, EQ, arrows);
+    }
+
     /** A class under another one that has an instance is not in it by that. */
     static void promise14_under_isNotEnough() {
         Run r = world();
