@@ -794,7 +794,10 @@ public final class ClassInference {
 
         private int typeOfMethod(int c) {
             int copy = freshCopy(classTable.methodOf(c));
-            graph.asked[fresh[0]] |= 1 << c;
+            // A method's type holds variable 0: without that it would have been refused.
+            if (fresh[0] != NONE) {
+                graph.asked[fresh[0]] |= 1 << c;
+            }
             handed++;
             return copy;
         }

@@ -47,9 +47,7 @@ abstract class Cases {
         Method[] all = test.getDeclaredMethods();
         Arrays.sort(all, Comparator.comparing(Method::getName));
         for (Method each : all) {
-            boolean isCase = each.getName().startsWith("promise") || each.getName().startsWith("terms")
-                || each.getName().startsWith("whatItIs");
-            if (isCase && Modifier.isStatic(each.getModifiers()) && each.getParameterCount() == 0) {
+            if (isCase(each)) {
                 runCase(each);
             }
         }
@@ -57,6 +55,12 @@ abstract class Cases {
         if (faults != 0 || cases == 0) {
             System.exit(1);
         }
+    }
+
+    static boolean isCase(Method each) {
+        String name = each.getName();
+        return (name.startsWith("promise") || name.startsWith("terms") || name.startsWith("whatItIs"))
+            && Modifier.isStatic(each.getModifiers()) && each.getParameterCount() == 0;
     }
 
     private static void runCase(Method each) {

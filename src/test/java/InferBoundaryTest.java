@@ -37,6 +37,19 @@ public final class InferBoundaryTest extends Cases {
         equal("calls", r.calls(), Run.MOST_CALLS);
     }
 
+    /** "at most 512 calls": however many of them are the dearest one. */
+    static void whatItIs_calls_nearlyAllTypeAnExpression() {
+        Run r = new Run();
+        int many = manyVariables(r);
+        while (r.calls() < Run.MOST_CALLS - 3) {
+            r.due(255, Run.Op.INFER, many);
+        }
+        r.due(-128, Run.Op.SHAPE, 254);
+        r.due(16, Run.Op.WANTS);
+        r.due(1 + 4 + 16, Run.Op.PASSES);
+        equal("calls", r.calls(), Run.MOST_CALLS);
+    }
+
     /** All that can be made, each up to its limit; the last expression is a chain of 23 LAMBDAs: another one's number. */
     private static int fullestTables(Run r) {
         int many = manyVariables(r);
@@ -341,6 +354,36 @@ public final class InferBoundaryTest extends Cases {
         r.typed(r.constant(OF_INT), new int[] {INT}, NONE, 0);
         r.typed(10, new int[] {ARROW, -1, ARROW, -2, INT}, new int[] {EQ, 0, SHOW, 1}, 2);
         r.typed(r.methodOf(ORD), IDENTITY, new int[] {ORD, 0}, 1);
+    }
+
+    /** "What is told below is of the latest one": what is made after it, or asked, leaves that. */
+    static void promise09_latest_whatIsMadeLaterLeavesIt() {
+        Run r = worldWithTold();
+        int[] shape = {ARROW, -1, ARROW, -2, INT};
+        int[] wants = {EQ, 0, SHOW, 1};
+        r.constructor(1);
+        r.type(ARROW, r.variable(7), V0);
+        r.told(shape, wants, 2);
+        int below = r.class0(SHOW);
+        r.method(below, V0);
+        r.told(shape, wants, 2);
+        r.instance(EQ, INT, 0, 0);
+        r.instance(SHOW, ARROW, 1, 1);
+        r.told(shape, wants, 2);
+        r.let(0, r.methodOf(below), r.name(0));
+        r.due(1, Run.Op.IS, EQ, OF_INT);
+        r.told(shape, wants, 2);
+    }
+
+    /** "LACKS": by the instances that there are when it is typed, not by those when it was made. */
+    static void promise09_latest_instancesMadeSince() {
+        Run r = world();
+        int e = r.apply(r.methodOf(EQ), r.lambda(0, r.apply(r.constant(INT_TO_V0), r.name(0))));
+        r.refused(LACKS, Run.Op.INFER, e);
+        r.instance(EQ, ARROW, 1 << EQ, 0);
+        r.refused(LACKS, Run.Op.INFER, e);
+        r.instance(EQ, INT, 0, 0);
+        r.typed(e, new int[] {INT}, NONE, 1);
     }
 
     /** "An expression is typed": as it is when it is the first one, whatever was typed, or refused, before it. */
@@ -783,6 +826,16 @@ public final class InferBoundaryTest extends Cases {
         r.typed(r.lambda(0, let), new int[] {ARROW, -1, PAIR, -1, -1}, new int[] {ORD, 0}, 1);
     }
 
+    /** "those on open ones that are in e's type belong to x": to this x alone, not to one around it too. */
+    static void promise13_names_withoutWhatBelongsToAnInnerLet() {
+        Run r = world();
+        int unused = r.let(0, r.methodOf(ORD), r.constant(V0_TO_V0));
+        r.typed(r.let(1, unused, r.name(1)), IDENTITY, NONE, 1);
+        int used = r.let(0, r.methodOf(ORD), r.name(0));
+        r.typed(r.let(1, used, r.name(1)), IDENTITY, new int[] {ORD, 0}, 3);
+        r.typed(r.let(1, used, r.constant(OF_INT)), new int[] {INT}, NONE, 2);
+    }
+
     // Terms: EXPRESSIONS and TYPING
 
     /** "if .. a NAME has nothing around it, there is NO type" */
@@ -853,6 +906,43 @@ public final class InferBoundaryTest extends Cases {
         r.refused(NO, Run.Op.INFER, r.apply(r.constant(INT_TO_V0), r.constant(LIST_V0)));
         r.typed(r.apply(r.constant(INT_TO_V0), one), new int[] {-1}, NONE, 0);
         r.typed(r.apply(r.constant(V0), one), new int[] {-1}, NONE, 0);
+    }
+
+    /** "if there are none": a type that is a part of itself is none, at once or by way of others. */
+    static void terms_types_noneIsAPartOfItself() {
+        Run r = worldWithTold();
+        int y = r.name(0);
+        int z = r.name(1);
+        int same = r.constant(r.type(ARROW, V0, V0_TO_V0));
+        int list = r.constant(r.type(ARROW, V0, LIST_V0));
+        int pairing = pairing(r);
+        r.refused(NO, Run.Op.INFER, r.lambda(0, r.apply(y, y)));
+        r.refused(NO, Run.Op.INFER, r.lambda(0, r.apply(r.apply(same, y), r.apply(list, y))));
+        r.refused(NO, Run.Op.INFER, r.lambda(0, r.lambda(1, pairOf(r, pairing, r.apply(y, z), r.apply(z, y)))));
+        r.refused(NO, Run.Op.INFER, r.let(2, r.lambda(0, r.apply(y, y)), r.constant(OF_INT)));
+        r.typed(r.lambda(0, r.apply(r.apply(same, r.apply(list, y)), r.apply(list, y))),
+            new int[] {ARROW, -1, LIST, -1}, NONE, 0);
+    }
+
+    /** "the most general ones": no variable is made equal to another one, nor to a constructor, without need. */
+    static void terms_types_mostGeneral() {
+        Run r = world();
+        int x = r.name(0);
+        int y = r.name(1);
+        int z = r.name(2);
+        int compose = r.lambda(0, r.lambda(1, r.lambda(2, r.apply(x, r.apply(y, z)))));
+        r.typed(compose, new int[] {ARROW, ARROW, -1, -2, ARROW, ARROW, -3, -1, ARROW, -3, -2}, NONE, 0);
+        int spread = r.lambda(0, r.lambda(1, r.lambda(2, r.apply(r.apply(x, z), r.apply(y, z)))));
+        r.typed(spread, new int[] {ARROW, ARROW, -1, ARROW, -2, -3, ARROW, ARROW, -1, -2, ARROW, -1, -3}, NONE, 0);
+        r.typed(r.lambda(0, r.lambda(1, x)), new int[] {ARROW, -1, ARROW, -2, -1}, NONE, 0);
+    }
+
+    /** "LET x e f: f's": whatever e's type is. */
+    static void terms_let_hasTheTypeOfItsF() {
+        Run r = world();
+        r.typed(r.let(0, r.constant(LIST_V0), r.constant(OF_INT)), new int[] {INT}, NONE, 0);
+        r.typed(r.let(0, r.constant(OF_INT), r.constant(LIST_V0)), new int[] {LIST, -1}, NONE, 0);
+        r.typed(r.let(0, r.constant(OF_INT), r.lambda(1, r.name(0))), new int[] {ARROW, -1, INT}, NONE, 0);
     }
 
     /** "it is typed anew for each of them": one expression in two places has two types. */
@@ -1082,6 +1172,21 @@ public final class InferBoundaryTest extends Cases {
         int inType = r.apply(r.methodOf(ORD), r.constant(V0));
         r.typed(r.let(0, inType, r.name(0)), new int[] {-1}, new int[] {ORD, 0}, 2);
         r.typed(r.let(0, inType, one), new int[] {INT}, NONE, 1);
+    }
+
+    /** "not in e's type can't be told": when an instance wants it of a part, too. */
+    static void terms_ambiguous_byAnInstance() {
+        Run r = worldWithTold();
+        r.instance(EQ, PAIR, 0, 1 << SHOW);
+        int pairing = pairing(r);
+        int list = r.constant(LIST_V0);
+        int any = r.constant(V0);
+        int eq = r.methodOf(EQ);
+        r.refused(AMBIGUOUS, Run.Op.INFER, r.let(0, r.apply(eq, pairOf(r, pairing, list, any)), list));
+        int first = r.let(0, r.apply(eq, pairOf(r, pairing, any, r.constant(OF_INT))), list);
+        r.refused(LACKS, Run.Op.INFER, first);
+        r.instance(SHOW, INT, 0, 0);
+        r.typed(first, new int[] {LIST, -1}, NONE, 1);
     }
 
     /** "can't be told": in the e of a LET, also when a LAMBDA is around it. */

@@ -1181,4 +1181,27 @@ public final class TableBoundaryTest extends Cases {
         r.due(3, Run.Op.CLASSES);
         r.due(11, Run.Op.EXPRESSIONS);
     }
+
+    /** "How many .. there are": to ask changes nothing. */
+    static void promise16_17_18_askingChangesNothing() {
+        Run r = worldWithTold();
+        r.changesNothing(10, Run.Op.TYPES);
+        r.changesNothing(3, Run.Op.CLASSES);
+        r.changesNothing(11, Run.Op.EXPRESSIONS);
+        r.changesNothing(2, Run.Op.WANTS);
+        r.changesNothing(2, Run.Op.PASSES);
+    }
+
+    /** "An INSTANCE of a class for a constructor": one of another class, or for another constructor, is another one. */
+    static void promise07_number_eachClassAndConstructor() {
+        Run r = world();
+        r.due(0, Run.Op.INSTANCE, EQ, INT, 0, 0);
+        r.due(0, Run.Op.IS, SHOW, OF_INT);
+        r.due(0, Run.Op.IS, EQ, r.type(LIST, OF_INT, 0));
+        r.due(1, Run.Op.INSTANCE, SHOW, INT, 0, 0);
+        r.due(2, Run.Op.INSTANCE, EQ, LIST, 1 << SHOW, 0);
+        r.due(1, Run.Op.IS, SHOW, OF_INT);
+        r.due(1, Run.Op.IS, EQ, r.type(LIST, OF_INT, 0));
+        r.due(0, Run.Op.IS, SHOW, r.type(LIST, OF_INT, 0));
+    }
 }
